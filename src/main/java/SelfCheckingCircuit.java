@@ -228,7 +228,7 @@ public final class SelfCheckingCircuit {
         if (outputWord < 0 || outputWord >= 1 << circuit.outputs) {
             return INVALID_ARGUMENT;
         }
-        return analysis.hasInCode(outputWord) ? 1 : 0;
+        return analysis.isInCode(outputWord) ? 1 : 0;
     }
 
     public int errorKind(int word, int fault) {
@@ -474,9 +474,11 @@ public final class SelfCheckingCircuit {
             }
         }
 
+        /** Keeps the circuit as it is before an edit; a sixth one takes the place of the oldest. */
         private void save(Circuit circuit) {
-            if (next >= 0 && next < MAX_EDITS) {
-                saved[next].copyFrom(circuit);
+            Circuit slot = slot();
+            if (slot != null) {
+                slot.copyFrom(circuit);
             }
             next = next + 1 < MAX_EDITS ? next + 1 : 0;
             count = Math.min(count + 1, MAX_EDITS);
@@ -485,9 +487,14 @@ public final class SelfCheckingCircuit {
         private void restore(Circuit circuit) {
             next = next > 0 ? next - 1 : MAX_EDITS - 1;
             count = Math.max(count - 1, 0);
-            if (next < MAX_EDITS) {
-                circuit.copyFrom(saved[next]);
+            Circuit slot = slot();
+            if (slot != null) {
+                circuit.copyFrom(slot);
             }
+        }
+
+        private Circuit slot() {
+            return next >= 0 && next < MAX_EDITS ? saved[next] : null;
         }
     }
 
@@ -684,7 +691,7 @@ public final class SelfCheckingCircuit {
             return wordInColumns(word);
         }
 
-        private boolean hasInCode(int outputWord) {
+        private boolean isInCode(int outputWord) {
             for (int k = 0; k < MAX_OUTPUTS; k++) {
                 outputColumns[k] = columnOfBit(outputWord, k);
             }
