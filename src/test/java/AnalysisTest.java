@@ -181,6 +181,8 @@ public final class AnalysisTest {
         greedyTests(CHECK.made("i6;o0;"), 0);
         greedyTests(CHECK.made("i6;o0;w63;w40;"), 40);
         greedyTests(CHECK.made("i6;" + "g5,0;".repeat(24) + "o29;w63;"), 63);
+        // 1 exposes the faults 0 and 3; 3, no code word even without a fault, exposes 1 and 3.
+        greedyTests(CHECK.made("i2;o0;o1;w1;w3;"), 1, 3);
     }
 
     private static void greedyTakesTheMost() {
