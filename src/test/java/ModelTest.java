@@ -1,9 +1,16 @@
 import java.util.Random;
 
-/** Runs of random calls, the same ones each time, on the program and on the plain model. */
+/**
+ * Runs of random calls, the same ones each time, on the program and on the plain model. A run has
+ * at most 512 calls, since nothing is promised about an object behind them.
+ */
 public final class ModelTest {
-    private static final int RUNS = 1500;
-    private static final int CALLS = 150;
+    private static final int RUNS = 2000;
+    private static final int MOST_CALLS = 512;
+    /** Looking at an object at the end of its run takes fewer calls than this. */
+    private static final int CALLS_TO_LOOK = 200;
+    /** A text of 200 signs, three more that are refused, and what is done with it. */
+    private static final int CALLS_OF_TEXT = 210;
     private static final int[] ODD = {
         -1, -2, -101, 6, 7, 24, 30, 31, 60, 64, 65, 200, Integer.MIN_VALUE, Integer.MAX_VALUE
     };
@@ -13,6 +20,7 @@ public final class ModelTest {
     private final SelfCheckingCircuit program = new SelfCheckingCircuit();
     private final Model model = new Model();
     private final String run;
+    private int calls;
 
     private ModelTest(int seed) {
         random = new Random(seed);
@@ -22,16 +30,22 @@ public final class ModelTest {
     public static void main(String[] args) {
         for (int seed = 0; seed < RUNS; seed++) {
             ModelTest test = new ModelTest(seed);
-            int length = 0;
-            while (length < CALLS) {
-                length += test.step();
+            while (test.calls < MOST_CALLS - CALLS_TO_LOOK) {
+                test.step();
             }
-            test.lookAtAll();
+            if (seed % 2 == 0) {
+                test.lookAtCircuit();
+            } else {
+                test.lookAtWords();
+            }
+            test.lookAtPast();
+            CHECK.due("a run has at most 512 calls", Math.max(test.calls, MOST_CALLS), MOST_CALLS);
         }
         CHECK.end();
     }
 
     private void due(String call, int got, int want) {
+        calls++;
         CHECK.due(run + call, got, want);
     }
 
@@ -67,23 +81,20 @@ public final class ModelTest {
         return outputs;
     }
 
-    /** Some calls; answers how many, about. */
-    private int step() {
+    private void step() {
         int kind = random.nextInt(100);
-        if (kind < 3) {
-            return newText();
-        }
-        if (kind < 55) {
+        if (kind < 4 && calls + CALLS_OF_TEXT <= MOST_CALLS - CALLS_TO_LOOK) {
+            newText();
+        } else if (kind < 55) {
             edit();
         } else if (kind < 80) {
             look();
         } else {
             analyse();
         }
-        return 1;
     }
 
-    private int newText() {
+    private void newText() {
         due("clearText()", program.clearText(), model.clearText());
         String text = randomText();
         for (int k = 0; k < text.length(); k++) {
@@ -93,7 +104,6 @@ public final class ModelTest {
         due("firstError() of " + text, program.firstError(), model.firstError());
         due("errorReason() of " + text, program.errorReason(), model.errorReason());
         due("configure() by " + text, program.configure(), model.configure());
-        return 5;
     }
 
     private String randomText() {
@@ -127,7 +137,8 @@ public final class ModelTest {
         }
         // A text that is cut would nearly always lack its last semicolon.
         return text.length() > 200 && chance(80)
-                ? text.substring(0, text.lastIndexOf(";", 199) + 1) : text.toString();
+                ? text.substring(0, text.lastIndexOf(";", 199) + 1)
+                : text.substring(0, Math.min(text.length(), 203));
     }
 
     private void edit() {
@@ -200,8 +211,7 @@ public final class ModelTest {
         }
     }
 
-    /** At the end of a run, everything that can be seen without a change, and then the undoing. */
-    private void lookAtAll() {
+    private void lookAtCircuit() {
         for (int node = 0; node <= model.nodeCount(); node++) {
             due("typeOf(" + node + ")", program.typeOf(node), model.typeOf(node));
             due("operandOf(" + node + ", 0)", program.operandOf(node, 0), model.operandOf(node, 0));
@@ -212,6 +222,11 @@ public final class ModelTest {
         }
         for (int word = 0; word <= 64; word++) {
             due("isNormal(" + word + ")", program.isNormal(word), model.isNormal(word));
+        }
+    }
+
+    private void lookAtWords() {
+        for (int word = 0; word <= 64; word++) {
             due("isCodeWord(" + word + ")", program.isCodeWord(word), model.isCodeWord(word));
             int fault = random.nextInt(2 * model.nodeCount());
             due("errorKind(" + word + ", " + fault + ")",
@@ -222,6 +237,10 @@ public final class ModelTest {
         for (int index = 0; index < 3; index++) {
             due("greedyTest(" + index + ")", program.greedyTest(index), model.greedyTest(index));
         }
+    }
+
+    /** What undo brings back, until there is nothing more to undo. */
+    private void lookAtPast() {
         for (int k = 0; k < 6; k++) {
             due("undo()", program.undo(), model.undo());
             due("nodeCount()", program.nodeCount(), model.nodeCount());
