@@ -23,6 +23,8 @@ public final class AnalysisBoundsTest {
         greedyTestOfNone();
         manyGreedyTests();
         greedyCountsTheLastFault();
+        greedyCountsFaultsAlone();
+        greedyForgetsWords();
         CHECK.end();
     }
 
@@ -249,5 +251,28 @@ public final class AnalysisBoundsTest {
         CHECK.due("greedyTest(0)", y.greedyTest(0), 62);
         CHECK.due("greedyTest(1)", y.greedyTest(1), 63);
         CHECK.due("greedyTest(2)", y.greedyTest(2), Check.NONE);
+    }
+
+    private static void greedyCountsFaultsAlone() {
+        CHECK.sentence("as long as there is a testable fault (NO_FAULT and the number behind are none)");
+        // 1 exposes the faults 0 and 3, and 3, which is no code word anyway, the faults 1 and 3.
+        SelfCheckingCircuit x = CHECK.made("i2;o0;o1;w1;w3;");
+        CHECK.due("testableFaults()", x.testableFaults(), 3);
+        CHECK.due("greedyTest(0)", x.greedyTest(0), 1);
+        CHECK.due("greedyTest(1)", x.greedyTest(1), 3);
+        CHECK.due("greedyTest(2)", x.greedyTest(2), Check.NONE);
+    }
+
+    private static void greedyForgetsWords() {
+        CHECK.sentence("the normal word that exposes the most (a word that is no longer normal is none)");
+        int[][] pairs = {{0, 1}, {0, 63}, {31, 32}, {62, 63}};
+        for (int[] pair : pairs) {
+            SelfCheckingCircuit x = CHECK.made("i6;o0;w" + pair[0] + ";w" + pair[1] + ";");
+            CHECK.due("greedyTest(0)", x.greedyTest(0), pair[0]);
+            x.setNormal(pair[0], 0);
+            CHECK.due("greedyTest(0) without " + pair[0], x.greedyTest(0), pair[1]);
+            x.undo();
+            CHECK.due("greedyTest(0) after undo", x.greedyTest(0), pair[0]);
+        }
     }
 }

@@ -17,6 +17,7 @@ public final class CodeBoundsTest {
         bergerBeyondTheOutputs();
         weightRange();
         weightOfTheOthers();
+        codesInTheAnalysis();
         exposing();
         unsafe();
         testable();
@@ -145,6 +146,47 @@ public final class CodeBoundsTest {
                 words(ALL_WORDS, n, weight, (word, bits, m) -> true);
                 words(TWO_RAIL, n, weight, (word, bits, m) -> bits % 2 == 0 && pairsDiffer(word, bits, m));
             }
+        }
+    }
+
+    private static void codesInTheAnalysis() {
+        CHECK.sentence("Let n be the number of outputs. (also when there were more of them before)");
+        for (int n = 0; n <= 6; n++) {
+            for (int m = 0; m <= 6; m++) {
+                analyse(ALL_WORDS, n, m, (word, bits, weight) -> true);
+                analyse(TWO_RAIL, n, m, (word, bits, weight) -> bits % 2 == 0 && pairsDiffer(word, bits, 0));
+                analyse(CONSTANT_WEIGHT, n, m, (word, bits, weight) -> Integer.bitCount(word) == weight);
+                analyse(BERGER, n, m, (word, bits, weight) -> weight <= bits
+                        && word >> weight == weight - Integer.bitCount(word & (1 << weight) - 1));
+            }
+        }
+    }
+
+    /** The outputs are the first n inputs, so a fault of an input sets one bit of the word. */
+    private static void analyse(int code, int n, int m, Due due) {
+        SelfCheckingCircuit x = CHECK.made("i6;o0;o1;o2;o3;o4;o5;");
+        // What the other outputs were must leave no trace.
+        x.outputWord(63, SelfCheckingCircuit.NO_FAULT);
+        x.clearOutputs();
+        for (int output = 0; output < n; output++) {
+            x.addOutput(output);
+        }
+        x.setCode(code, m);
+        int all = (1 << n) - 1;
+        for (int fault = 0; fault < 12; fault++) {
+            int test = Check.NONE;
+            int unsafe = Check.NONE;
+            for (int word = 63; word >= 0; word--) {
+                int faulty = (fault % 2 == 1 ? word | 1 << fault / 2 : word & ~(1 << fault / 2)) & all;
+                if (!due.isCode(faulty, n, m)) {
+                    test = word;
+                } else if (faulty != (word & all)) {
+                    unsafe = word;
+                }
+            }
+            String state = ", code " + code + ", n " + n + ", m " + m;
+            CHECK.due("firstTest(" + fault + ")" + state, x.firstTest(fault), test);
+            CHECK.due("firstUnsafe(" + fault + ")" + state, x.firstUnsafe(fault), unsafe);
         }
     }
 

@@ -21,6 +21,7 @@ public final class TextBoundsTest {
         firstErrorIndex();
         firstErrorOfNone();
         errorReasonOfEach();
+        errorReasonAlone();
         errorReasonOfNone();
         configureAnswersTheNodes();
         configureLeavesTheText();
@@ -180,6 +181,23 @@ public final class TextBoundsTest {
         malformed("i1;o;", 3, BAD_NUMBER);
         malformed("i1;o1;", 3, OUT_OF_RANGE);
         malformed(Check.sized(1, 0, 7), 21, TOO_MANY);
+    }
+
+    private static void errorReasonAlone() {
+        CHECK.sentence("Promise 5: Tells why the first malformed statement is malformed (the first call)");
+        CHECK.due("errorReason() of x", Check.withText("x").errorReason(), BAD_STATEMENT);
+        SelfCheckingCircuit x = Check.withText("i");
+        CHECK.due("errorReason() of i", x.errorReason(), BAD_NUMBER);
+        x.append('7');
+        x.append(';');
+        CHECK.due("errorReason() of i7;", x.errorReason(), OUT_OF_RANGE);
+        CHECK.due("firstError() of i7;", x.firstError(), 0);
+        Check.put(x, "i6;");
+        CHECK.due("errorReason() of i6;", x.errorReason(), Check.NONE);
+        x.append('o');
+        CHECK.due("errorReason() of i6;o", x.errorReason(), BAD_NUMBER);
+        x.clearText();
+        CHECK.due("errorReason() of no text", x.errorReason(), Check.NONE);
     }
 
     private static void errorReasonOfNone() {
