@@ -2,8 +2,6 @@ import java.io.File;
 import java.io.IOException;
 import java.lang.reflect.Method;
 import java.lang.reflect.Modifier;
-import java.net.URL;
-import java.net.URLClassLoader;
 import java.nio.file.Files;
 import java.nio.file.Path;
 import java.util.ArrayList;
@@ -12,8 +10,6 @@ import java.util.Set;
 import java.util.TreeSet;
 import java.util.regex.Matcher;
 import java.util.regex.Pattern;
-import javax.tools.JavaCompiler;
-import javax.tools.ToolProvider;
 
 /** README.md: its calls answer as it tells, it shows every call, and it names every test. */
 public final class ReadmeTest {
@@ -27,7 +23,7 @@ public final class ReadmeTest {
     private static final Pattern ROW = Pattern.compile("(?m)^\\| `(\\w+)` \\|");
     private static final Check CHECK = new Check();
 
-    public static void main(String[] args) throws Exception {
+    public static void main(String[] args) throws IOException, InterruptedException {
         String page = Files.readString(PAGE);
         everyCallIsShown(page);
         everyTestIsNamed(page);
@@ -76,56 +72,56 @@ public final class ReadmeTest {
         CHECK.due("README names " + named + ", there are " + there, named.equals(there) ? 1 : 0, 1);
     }
 
-    /** Compiles the blocks as the page says, the program's file together with the user's. */
-    private static void callsAnswerAsTold(List<String> blocks, Path room) throws Exception {
-        StringBuilder source = new StringBuilder("public final class Page {\n");
-        for (int k = 0; k < blocks.size(); k++) {
-            source.append("public static java.util.List<Integer> block").append(k)
-                    .append("() {\njava.util.List<Integer> got = new java.util.ArrayList<>();\n")
-                    .append(CALL.matcher(blocks.get(k)).replaceAll("got.add(x.$1($2));"))
-                    .append("return got;\n}\n");
+    /** Each block becomes a part of one program, which prints the answer of each call. */
+    private static void callsAnswerAsTold(List<String> blocks, Path room)
+            throws IOException, InterruptedException {
+        StringBuilder source = new StringBuilder("class Page {\n");
+        source.append("public static void main(String[] args) {\n");
+        for (String block : blocks) {
+            source.append("{\n");
+            source.append(CALL.matcher(block).replaceAll("System.out.println(x.$1($2));"));
+            source.append("}\n");
         }
-        Path file = Files.writeString(room.resolve("Page.java"), source.append("}\n"));
-        JavaCompiler compiler = ToolProvider.getSystemJavaCompiler();
-        int code = compiler.run(null, null, null, "-d", room.toString(), PROGRAM.toString(), file.toString());
-        CHECK.due("javac of README's calls ends with", code, 0);
-        if (code != 0) {
-            return;
-        }
-        URL[] places = {room.toUri().toURL()};
-        try (URLClassLoader loader = new URLClassLoader(places, ClassLoader.getPlatformClassLoader())) {
-            Class<?> made = loader.loadClass("Page");
-            for (int k = 0; k < blocks.size(); k++) {
-                compare(blocks.get(k), (List<?>) made.getMethod("block" + k).invoke(null));
-            }
-        }
+        Path file = Files.writeString(room.resolve("Page.java"), source.append("} }\n"));
+        String place = room.toString();
+        run("README's calls", room, "javac", "-d", place, PROGRAM.toString(), file.toString());
+        String printed = run("README's calls", room, "java", "-cp", place, "Page");
+        compare(String.join("", blocks), printed.lines().toList());
     }
 
-    private static void compare(String block, List<?> got) {
-        Matcher call = CALL.matcher(block);
+    private static void compare(String told, List<String> got) {
+        Matcher call = CALL.matcher(told);
         int index = 0;
         while (call.find()) {
             String shown = "README: " + call.group(1) + "(" + call.group(2) + ")";
-            CHECK.due(shown + " has its answer told", call.group(3) == null ? 0 : 1, 1);
-            if (call.group(3) != null) {
-                CHECK.due(shown, (Integer) got.get(index), Integer.parseInt(call.group(3)));
-            }
+            String answer = index < got.size() ? got.get(index) : "nothing";
+            boolean same = answer.equals(call.group(3));
+            CHECK.due(shown + " is told as " + call.group(3) + " and is " + answer, same ? 1 : 0, 1);
             index++;
         }
-        CHECK.due("README: calls in a block", index == 0 ? 0 : 1, 1);
+        CHECK.due("README: answers", got.size(), index);
     }
 
     private static void commandsEndWell(List<String> blocks, Path room)
             throws IOException, InterruptedException {
         for (String block : blocks) {
-            ProcessBuilder shell = new ProcessBuilder("sh", "-e", "-c", block).redirectErrorStream(true);
-            // What the commands make goes with the room.
-            shell.environment().put("TMPDIR", room.toString());
-            Process process = shell.start();
-            String printed = new String(process.getInputStream().readAllBytes());
-            int code = process.waitFor();
-            CHECK.due("README: " + block + printed + "ends with", code, 0);
+            run("README's commands", room, "sh", "-e", "-c", block);
         }
+    }
+
+    /** Runs a command, which must end with 0; answers what it printed. */
+    private static String run(String what, Path room, String... command)
+            throws IOException, InterruptedException {
+        ProcessBuilder builder = new ProcessBuilder(command);
+        // What a Java machine says of itself is no answer of a call.
+        builder.redirectError(ProcessBuilder.Redirect.INHERIT);
+        // What the commands make goes with the room.
+        builder.environment().put("TMPDIR", room.toString());
+        Process process = builder.start();
+        String printed = new String(process.getInputStream().readAllBytes());
+        int code = process.waitFor();
+        CHECK.due(what + ": " + String.join(" ", command) + "\n" + printed, code, 0);
+        return printed;
     }
 
     private static void remove(File file) {
